@@ -184,6 +184,7 @@ public final class ActsTest {
         Due.due("spoilt", x.count(0), 3);
         Due.due("undo", x.undo(), 2);
         isFull(x, full());
+        imageOfSeen();
         // WAR is undone, too, and PEACE
         SaltPeace w = new SaltPeace();
         Due.salts(w, 0, 0, 0, 0, 0, 0);
@@ -198,6 +199,24 @@ public final class ActsTest {
         w.undo();
         Due.due("WAR again", w.told(3), 1);
         Due.due("SALT again", w.told(10), 0);
+    }
+
+    private static void imageOfSeen() {
+        SaltPeace x = Due.under("rain 2");
+        Due.people(x, 4, 0, 0);
+        x.see(1, 100, 0);
+        x.see(2, 94, 3);
+        x.see(3, 60, 20);
+        Due.due("SEEN", x.who(), 1);
+        x.image();
+        x.see(-1, 0, 0);
+        x.see(5, 1, 19);
+        x.see(5, 2, 18);
+        x.see(5, 3, 17);
+        Due.due("otherwise SEEN", x.who(), 0);
+        x.undo();
+        Due.due("SEEN again", x.who(), 1);
+        Due.due("so many", x.count(2), 3);
     }
 
     private static void imageStays() {

@@ -8,6 +8,7 @@ public final class BlockTest {
         licks();
         takes();
         rows();
+        rowsAhead();
         sets();
         salts();
         roofs();
@@ -112,6 +113,10 @@ public final class BlockTest {
         Due.due("PERSON on DAY 1", x.of(0, 6), 10);
         x.pass(1);
         Due.due("SLY on DAY 2", x.of(3, 6), 10);
+        for (int day = 3; day <= 12; day++) {
+            x.pass(1);
+            Due.due("SLY on DAY " + day, x.of(3, 6), day % 2 == 0 ? 10 : 15);
+        }
         SaltPeace y = new SaltPeace();
         Due.people(y, 6, 9, 0);
         Due.due("TOLD", y.of(0, 6), 10);
@@ -155,6 +160,21 @@ public final class BlockTest {
             Due.due("ROW of 0 on " + day, x.of(0, 5), 9 - day % 4);
             Due.due("ROW of 2 on " + day, x.of(2, 5), day % 4);
             x.pass(1);
+        }
+    }
+
+    private static void rowsAhead() {
+        SaltPeace x = Due.under("rain 0");
+        Due.people(x, 6, 0, 0, 6, 0, 0, 6, 0, 0, 6, 0, 0, 6, 0, 0, 6, 0, 0);
+        Due.salts(x, 0);
+        for (int p = 0; p < 6; p++) {
+            for (int k = 0; k < 4; k++) {
+                x.row(p, k, (p + 2 * k) % 10);
+            }
+        }
+        for (int p = 0; p < 6; p++) {
+            Due.due("a round of ROWS of " + p, x.on(4, 20 + p), 4 * p + 12 - (p == 4 || p == 5 ? 10 : 0));
+            Due.due("one DAY of " + p, x.on(1, 20 + p), p);
         }
     }
 

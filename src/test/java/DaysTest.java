@@ -81,6 +81,11 @@ public final class DaysTest {
     private static void hollow() {
         SaltPeace x = new SaltPeace();
         Due.due("all alike", x.hollow(), 0);
+        for (int side = 0; side < 6; side++) {
+            x.salt(side, 99);
+            Due.due("the least " + side, x.hollow(), side);
+            x.salt(side, 100);
+        }
         x.salt(5, 99);
         Due.due("the least", x.hollow(), 5);
         x.salt(3, 99);

@@ -66,6 +66,27 @@ public final class PlansTest {
         x.salt(3, 990);
         x.plan(2, 3);
         Due.due("999 at most", x.done(0), 500 + 999);
+        x.plan(-1, 0);
+        Due.treaty(x, "rain 60");
+        Due.salts(x, 50, 100, 200, 300, 400, 500);
+        x.set(1, 1, 0);
+        int[] kept = {50, 60, 60, 60, 60, 60};
+        for (int side = 0; side < 6; side++) {
+            x.plan(1, side);
+            x.plan(0, 0);
+            Due.due("a ROOF at " + side, x.done(0), 1200 + kept[side]);
+            x.plan(-1, 0);
+        }
+        Due.due("a third", x.person(4, 0, 0), 2);
+        x.set(0, 1, 5);
+        x.set(1, 1, 20);
+        x.set(2, 1, 70);
+        int[] left = {90, 75, 25};
+        for (int p = 0; p < 3; p++) {
+            x.plan(3, p);
+            Due.due("forgiven " + p, x.done(1), left[p]);
+            x.plan(-1, 0);
+        }
     }
 
     private static void book() {

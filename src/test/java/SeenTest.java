@@ -63,6 +63,12 @@ public final class SeenTest {
         x.see(0, 99, 0);
         Due.due("otherwise now", x.who(), 0);
         x.see(-1, 0, 0);
+        x.see(1, 99, 20);
+        Due.due("otherwise behind 20", x.who(), 0);
+        x.see(-1, 0, 0);
+        x.see(1, 100, 20);
+        Due.due("so behind 20", x.who(), 7);
+        x.see(-1, 0, 0);
         // from now, whenever now is
         x.see(0, 80, 1);
         x.pass(1);

@@ -150,8 +150,12 @@ public final class SharesTest {
         Due.due("side 6", x.fill(0, 6), SaltPeace.NONE);
         Due.due("side -1", x.fill(1, -1), SaltPeace.NONE);
         Due.due("n 0", x.fill(0, 0), SaltPeace.BAD);
+        Due.due("n 1", x.fill(1, 1), 0);
         Due.due("n 61", x.fill(61, 0), SaltPeace.BAD);
         Due.due("nothing is changed", x.told(10), 0);
+        x.salt(1, 96);
+        Due.due("1 is above 0", x.fill(19, 1), 0);
+        Due.due("by 10 to 1", x.fill(21, 1), 10);
         SaltPeace y = Due.under("rain 37");
         y.salt(2, 985);
         Due.due("999 at most", y.fill(27, 2), -5);

@@ -146,7 +146,7 @@ public final class TreatyTest {
         SaltPeace x = Due.under("rain 5;need 7;rain 9;need 8");
         Due.due("the last rain", x.told(1), 9);
         Due.due("the last need", x.told(2), 8);
-        Due.due("a FAULT", Due.treaty(x, "rain 3;need 2;rain"), -10 - 18);
+        Due.due("a FAULT", Due.treaty(x, "rain 3;need 4;rain"), -10 - 18);
         Due.due("RAIN held", x.told(1), 9);
         Due.due("NEED held", x.told(2), 8);
         Due.people(x, 0, 0, 0);
@@ -198,6 +198,15 @@ public final class TreatyTest {
         }
     }
 
+    private static void gByTen() {
+        SaltPeace x = new SaltPeace();
+        Due.people(x, 0, 0, 0);
+        for (int grudge = 0; grudge <= 99; grudge += grudge % 10 == 0 ? 9 : 1) {
+            x.set(0, 1, grudge);
+            says(x, 0, "g=" + grudge / 10, true);
+        }
+    }
+
     private static void testsSay() {
         threeSays(0, 'p', 0);
         threeSays(2, 'p', 2);
@@ -209,6 +218,7 @@ public final class TreatyTest {
         threeSays(1, 's', 1);
         threeSays(2, 'g', 4);
         threeSays(1, 'g', 9);
+        gByTen();
         threeSays(0, 'd', 0);
         SaltPeace x = new SaltPeace();
         Due.people(x, 0, 0, 0);
