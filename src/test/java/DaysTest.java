@@ -14,10 +14,9 @@ public final class DaysTest {
         Due.end("DaysTest");
     }
 
-    /** Grudges that stay at 99, so that all lick as much as they may. */
-    private static SaltPeace hungry(int... kindVSide) {
-        SaltPeace x = Due.under("rain 0;need 99;wrong 99 p<9");
-        Due.people(x, kindVSide);
+    /** They lick as much as they may, but the SALT is still to be told. */
+    private static SaltPeace hungryWithout(int... kindVSide) {
+        SaltPeace x = Made.hungry(kindVSide);
         Due.salts(x, 0, 0, 0, 0, 0, 0);
         return x;
     }
@@ -111,7 +110,7 @@ public final class DaysTest {
     }
 
     private static void greediest() {
-        SaltPeace x = hungry(0, 0, 0, 2, 1, 1, 2, 0, 2);
+        SaltPeace x = hungryWithout(0, 0, 0, 2, 1, 1, 2, 0, 2);
         Due.due("nobody EATS: the first", x.greediest(1), 0);
         Due.salts(x, 999, 15, 100, 0, 0, 0);
         Due.due("on the first DAY", x.greediest(1), 1);
@@ -129,7 +128,7 @@ public final class DaysTest {
     }
 
     private static void forgive() {
-        SaltPeace x = hungry(0, 0, 0, 2, 5, 0);
+        SaltPeace x = hungryWithout(0, 0, 0, 2, 5, 0);
         x.salt(0, 100);
         Due.due("lasts", x.lasts(), 4);
         Due.due("the one who EATS more", x.forgive(), 1);
@@ -138,10 +137,10 @@ public final class DaysTest {
         Due.due("3 DAYS, not 2", x.forgive(), 1);
         x.salt(0, 10);
         Due.due("not longer", x.forgive(), -5);
-        SaltPeace two = hungry(0, 0, 0, 0, 3, 0);
+        SaltPeace two = hungryWithout(0, 0, 0, 0, 3, 0);
         two.salt(0, 100);
         Due.due("of several the first", two.forgive(), 0);
-        SaltPeace one = hungry(0, 0, 0);
+        SaltPeace one = hungryWithout(0, 0, 0);
         one.salt(0, 100);
         Due.due("longer than any", one.forgive(), 0);
         one.salt(1, 1);
@@ -170,7 +169,7 @@ public final class DaysTest {
         Due.due("nothing is changed", x.of(0, 2), 4);
         Due.due("one 1", x.move(1), SaltPeace.NONE);
         Due.due("one -1", x.move(-1), SaltPeace.NONE);
-        SaltPeace y = hungry(0, 0, 3);
+        SaltPeace y = hungryWithout(0, 0, 3);
         y.salt(0, 100);
         Due.due("never by 99 is longest", y.move(0), 1);
     }

@@ -13,12 +13,6 @@ public final class SeenTest {
         Due.end("SeenTest");
     }
 
-    private static SaltPeace hungry(int... kindVSide) {
-        SaltPeace x = Due.under("rain 0;need 99;wrong 99 p<9");
-        Due.people(x, kindVSide);
-        return x;
-    }
-
     private static void see() {
         SaltPeace x = new SaltPeace();
         Due.due("none then", x.see(-1, -5, 99), 0);
@@ -42,7 +36,7 @@ public final class SeenTest {
     }
 
     private static void who() {
-        SaltPeace x = hungry(0, 0, 0, 2, 5, 0, 4, 0, 0);
+        SaltPeace x = Made.hungry(0, 0, 0, 2, 5, 0, 4, 0, 0);
         Due.due("nothing SEEN", x.who(), 7);
         x.see(0, 80, 1);
         Due.due("it was 0", x.who(), 1);
@@ -78,7 +72,7 @@ public final class SeenTest {
     }
 
     private static void firm() {
-        SaltPeace x = hungry(2, 3, 0, 0, 7, 1);
+        SaltPeace x = Made.hungry(2, 3, 0, 0, 7, 1);
         Due.due("nothing SEEN", x.firm(0, 0), 10);
         Due.due("nothing SEEN, the least", x.firm(0, 1), 0);
         x.see(0, 80, 1);
@@ -107,7 +101,7 @@ public final class SeenTest {
     }
 
     private static void where() {
-        SaltPeace x = hungry(0, 0, 2, 4, 0, 0);
+        SaltPeace x = Made.hungry(0, 0, 2, 4, 0, 0);
         Due.due("nothing SEEN", x.where(0), 63);
         x.see(3, 90, 1);
         Due.due("there", x.where(0), 8);
@@ -130,7 +124,7 @@ public final class SeenTest {
     }
 
     private static void odds() {
-        SaltPeace x = hungry(0, 0, 0, 2, 5, 0);
+        SaltPeace x = Made.hungry(0, 0, 0, 2, 5, 0);
         Due.salts(x, 100, 0, 0, 0, 0, 0);
         // without 0 WAR comes behind 5, without 1 behind 10
         odds(x, 0, 1, 1);
@@ -146,7 +140,7 @@ public final class SeenTest {
         odds(new SaltPeace(), 5, NO, NO);
         x.salt(1, 1);
         odds(x, 99, 1, 1);
-        SaltPeace y = hungry(0, 0, 0, 2, 5, 0, 4, 0, 0, 4, 0, 0);
+        SaltPeace y = Made.hungry(0, 0, 0, 2, 5, 0, 4, 0, 0, 4, 0, 0);
         Due.salts(y, 100, 0, 0, 0, 0, 0);
         odds(y, 3, 1, 1);
         odds(y, 4, 1, 2);

@@ -13,19 +13,13 @@ public final class SharesTest {
         Due.end("SharesTest");
     }
 
-    private static SaltPeace hungry(int... kindVSide) {
-        SaltPeace x = Due.under("rain 0;need 99;wrong 99 p<9");
-        Due.people(x, kindVSide);
-        return x;
-    }
-
     private static void fraction(SaltPeace x, int person, int n, long above, long below) {
         Due.due("share " + person + " " + n + " above", x.share(person, n, 0), above);
         Due.due("share " + person + " " + n + " below", x.share(person, n, 1), below);
     }
 
     private static void share() {
-        SaltPeace x = hungry(0, 0, 0, 2, 5, 1, 4, 0, 2);
+        SaltPeace x = Made.hungry(0, 0, 0, 2, 5, 1, 4, 0, 2);
         fraction(x, 0, 1, 1, 3);
         fraction(x, 1, 1, 2, 3);
         fraction(x, 2, 1, 0, 1);
@@ -42,7 +36,7 @@ public final class SharesTest {
         fraction(x, 0, -1, NO, NO);
         Due.due("part 2", x.share(0, 1, 2), NO);
         Due.due("part -1", x.share(0, 1, -1), NO);
-        SaltPeace alone = hungry(0, 0, 0);
+        SaltPeace alone = Made.hungry(0, 0, 0);
         fraction(alone, 0, 9, 1, 1);
         Due.salts(alone, 0);
         fraction(alone, 0, 60, NO, NO);
@@ -112,7 +106,7 @@ public final class SharesTest {
     }
 
     private static void watch() {
-        SaltPeace x = hungry(0, 0, 0, 2, 5, 1, 0, 0, 2, 1, 0, 5);
+        SaltPeace x = Made.hungry(0, 0, 0, 2, 5, 1, 0, 0, 2, 1, 0, 5);
         watch(x, 1, 2, 20);
         watch(x, 2, 3, 30);
         watch(x, 3, 7, 40);
