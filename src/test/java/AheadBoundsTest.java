@@ -12,6 +12,7 @@ public final class AheadBoundsTest {
         greediestOfSeveral();
         forgiveLongerThanAny();
         moveLongerThanAny();
+        moveToTheLast();
         roofLongerThanAny();
         shareOfNothing();
         angryAtTheEdges();
@@ -218,6 +219,19 @@ public final class AheadBoundsTest {
         Due.salts(y, 22, 22, 0, 0, 0, 0);
         Due.due("where another SIDE lasts as long", y.move(0), 0);
         Due.due("at WAR all alike", atWar(0, 0, 5).move(0), 0);
+    }
+
+    private static void moveToTheLast() {
+        SaltPeace x = empty(Due.under("rain 1;need 1;wrong 12 p=1"));
+        Due.people(x, 0, 0, 0, 3, 0, 5);
+        x.set(0, 1, 5);
+        x.salt(5, 31);
+        // the SLY one has 12 more on the second DAY, too, as 20 are left; there the PERSON leaves less, and less is wanted
+        Due.due("lasts", x.lasts(), 7);
+        Due.due("the last SIDE alone", x.move(0), 5);
+        x.set(0, 0, 5);
+        Due.due("lasts there", x.lasts(), 14);
+        Due.due("it is there", x.move(0), 5);
     }
 
     private static void roofLongerThanAny() {

@@ -5,7 +5,8 @@ public final class BlockBoundsTest {
     public static void main(String[] args) {
         aTapeOf100();
         tooEarly();
-        noFaultAsLongAsItCanGoOn();
+        eachSignAtEachPlace();
+        lessThanNothing();
         numbersOfOneOrTwoDigits();
         tenClauses();
         fiveOpenOnes();
@@ -63,23 +64,67 @@ public final class BlockBoundsTest {
         }
     }
 
-    private static void noFaultAsLongAsItCanGoOn() {
-        // each sign that can stand there is taken, and the next one is the FAULT
-        for (String text : new String[] {"r", "rain ", "rain 9", "rain 99", "rain 9;", "wrong 9 p", "wrong 9 p>",
-            "wrong 9 p>9", "wrong 9 p>99", "wrong 9 p>9&", "wrong 9 p>9|", "wrong 9 (p>9", "wrong 9 (p>9)", "calm 9 !!"}) {
-            treaty(text + "#", -10 - text.length());
-            treaty(text + (char) 0, -10 - text.length());
-            treaty(text + (char) 127, -10 - text.length());
+    /** Behind a text these signs can go on, and all others are the FAULT; # never can. */
+    private static void goesOn(String text, String signs) {
+        for (char sign = 0; sign < 128; sign++) {
+            int fault = text.length() + (signs.indexOf(sign) >= 0 ? 1 : 0);
+            treaty(text + sign + "#", -10 - fault);
         }
-        // what can't be an F ends nothing
-        for (String next : new String[] {";", ")", "&", "|", ";rain 1"}) {
-            treaty("wrong 1 !" + next, -10 - 9);
-            treaty("wrong 1 (" + next, -10 - 9);
-            treaty("wrong 1 p=1&" + next, -10 - 12);
-            treaty("wrong 1 p=1|" + next, -10 - 12);
+    }
+
+    private static void eachSignAtEachPlace() {
+        String digits = "0123456789", words = "rnwc", factor = "pkvsgd!(";
+        goesOn("", words);
+        String[] clauses = {"rain ", "need ", "wrong ", "calm "};
+        for (String clause : clauses) {
+            for (int i = 1; i < clause.length(); i++) {
+                goesOn(clause.substring(0, i), clause.substring(i, i + 1));
+            }
+            goesOn(clause, digits);
+            String behind = clause.equals("rain ") || clause.equals("need ") ? ";" : " ";
+            goesOn(clause + "0", behind);
+            goesOn(clause + "1", digits + behind);
+            goesOn(clause + "10", behind);
         }
-        treaty("rain 1;;rain 1", -10 - 7);
-        treaty(";rain 1", -10);
+        goesOn("rain 1;", words);
+        goesOn("wrong 1 p=1;", words);
+        String[] open = {"", "!", "(", "p=1&", "p=1|", "!!!!", "((((", "!(!(", "!!!!!p=1&", "(((((p=1)))))|"};
+        for (String e : open) {
+            goesOn("wrong 1 " + e, factor);
+        }
+        goesOn("wrong 1 !!!!!", "pkvsgd");
+        goesOn("wrong 1 (((((", "pkvsgd");
+        goesOn("calm 1 (!(!(p=1|", "pkvsgd");
+        for (char letter : "pkvsgd".toCharArray()) {
+            goesOn("calm 1 " + letter, "<=>");
+        }
+        for (char sign : "<=>".toCharArray()) {
+            goesOn("calm 1 p" + sign, digits);
+            goesOn("calm 1 p" + sign + "0", "&|;");
+            goesOn("calm 1 p" + sign + "1", digits + "&|;");
+            goesOn("calm 1 p" + sign + "99", "&|;");
+        }
+        goesOn("wrong 1 (p=0", "&|)");
+        goesOn("wrong 1 !(p=9", digits + "&|)");
+        goesOn("wrong 1 (p=1)", "&|;");
+        goesOn("wrong 1 ((p=1)", "&|)");
+        goesOn("wrong 1 ((p=1)&(p=1)", "&|)");
+        goesOn("rain 0" + ";rain 0".repeat(8), ";");
+        goesOn("rain 0" + ";rain 0".repeat(9), "");
+        goesOn("rain 0" + ";rain 9".repeat(9), digits);
+    }
+
+    private static void lessThanNothing() {
+        SaltPeace x = new SaltPeace();
+        Due.people(x, 0, 0, 0);
+        String[] never = {"p<0", "k<0", "v<0", "s<0", "g<0", "d<0", "p>99", "k>99", "v>99", "s>99", "g>99", "d>99"};
+        x.image();
+        for (String test : never) {
+            String text = "wrong 1 " + test + ";wrong 2 !" + test + ";wrong 4 p=0|" + test + ";wrong 8 p=0&" + test;
+            Due.due("treaty " + text, Due.treaty(x, text), 0);
+            Due.due("ANGER by " + text, x.of(0, 5), 2 + 4);
+            x.undo();
+        }
     }
 
     private static void numbersOfOneOrTwoDigits() {
