@@ -22,6 +22,7 @@ public final class AheadBoundsTest {
         fillUpTo990();
         fillUpTo999();
         seenNowAndBehind20();
+        seenOnALaterDay();
         whoOfNobodyAndOfSix();
         firmOfTheLeastAndTheGreatest();
         whereAtTheFirstAndTheLast();
@@ -30,6 +31,7 @@ public final class AheadBoundsTest {
         chipsOfWhatThereIs();
         planOf8();
         bookOf8();
+        clearedWhateverTheOthersAre();
         Due.end("AheadBoundsTest");
     }
 
@@ -415,6 +417,22 @@ public final class AheadBoundsTest {
         Due.due("the fifth is not", x.who(), 0);
     }
 
+    private static void seenOnALaterDay() {
+        SaltPeace x = Due.under("rain 1");
+        Due.people(x, 4, 0, 0);
+        x.pass(7);
+        x.see(5, 93, 0);
+        x.see(5, 73, 20);
+        Due.due("from DAY 7 on", x.who(), 1);
+        x.see(-1, 0, 0);
+        x.see(5, 85, 1);
+        Due.due("not yet", x.who(), 0);
+        x.pass(7);
+        Due.due("from DAY 14 on", x.who(), 1);
+        x.pass(1);
+        Due.due("no more", x.who(), 0);
+    }
+
     private static void whoOfNobodyAndOfSix() {
         Due.due("nobody", new SaltPeace().who(), 0);
         SaltPeace x = Made.hungry(4, 0, 0, 0, 0, 0, 1, 0, 0, 0, 0, 0, 2, 0, 0, 4, 0, 0);
@@ -574,5 +592,22 @@ public final class AheadBoundsTest {
         }
         x.book(5, 999);
         Due.due("the last", x.looked(), 7);
+    }
+
+    private static void clearedWhateverTheOthersAre() {
+        int[] others = {Integer.MIN_VALUE, -1, 0, 5, 6, 20, 21, 999, 1000, Integer.MAX_VALUE};
+        for (int other : others) {
+            for (int another : others) {
+                SaltPeace x = Made.full();
+                Due.due("none SEEN by " + other + " " + another, x.see(-1, other, another), 0);
+                Due.due("SEEN then", x.count(2), 0);
+            }
+            SaltPeace x = Made.full();
+            Due.due("no PLAN by " + other, x.plan(-1, other), 0);
+            Due.due("no BOOK by " + other, x.book(-1, other), 0);
+            Due.due("PLAN then", x.count(3), 0);
+            Due.due("BOOK then", x.count(4), 0);
+            Due.due("the first row again", x.plan(0, other), 1);
+        }
     }
 }
