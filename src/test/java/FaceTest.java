@@ -31,7 +31,9 @@ public final class FaceTest {
         publicFace();
         noMore();
         inside();
-        text(Files.readString(Path.of(System.getProperty("source", "src/main/java/SaltPeace.java"))));
+        String source = Files.readString(Path.of(System.getProperty("source", "src/main/java/SaltPeace.java")));
+        asInTheDocument(source, Files.readString(Path.of(System.getProperty("document", "../shared/DOC.md"))));
+        text(source);
         System.out.println("FaceTest: " + wrong + " wrong");
         if (wrong != 0) {
             System.exit(1);
@@ -66,6 +68,27 @@ public final class FaceTest {
         Constructor<?>[] made = SaltPeace.class.getDeclaredConstructors();
         holds(made.length == 1 && made[0].getParameterCount() == 0 && Modifier.isPublic(made[0].getModifiers()),
             "one public constructor without parameters");
+    }
+
+    /** Each line of the document's face stands in the text, in the document's order and with its names. */
+    private static void asInTheDocument(String source, String document) {
+        int begin = document.indexOf("public final class SaltPeace {");
+        int end = document.indexOf("\n}", Math.max(0, begin));
+        holds(begin >= 0 && end > begin, "the document has a face");
+        if (begin < 0 || end <= begin) {
+            return;
+        }
+        int from = 0;
+        int lines = 0;
+        for (String line : document.substring(begin, end).split("\n")) {
+            boolean isBody = line.endsWith(");");
+            String due = isBody ? line.substring(0, line.length() - 1) + " {" : line;
+            int at = source.indexOf("\n" + due + "\n", from);
+            holds(at >= 0, "the text has, in its place, " + due.trim());
+            from = at >= 0 ? at + due.length() : from;
+            lines += isBody ? 1 : 0;
+        }
+        holds(lines == FACE.split(" ").length + 1, "the document's face has as many bodies as are looked for here");
     }
 
     private static void noMore() {
